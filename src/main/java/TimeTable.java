@@ -12,6 +12,7 @@ public final class TimeTable {
     private static final int MOST_CALLS = 512;
     private static final int MOST_ENTRIES = 1024;
     private static final int MOST_BYTES = 256;
+    private static final int LAST_TIME = 2147483647;
 
     private static final int INSERTED = 0;
     private static final int NO_BYTES = 1;
@@ -93,7 +94,7 @@ public final class TimeTable {
     }
 
     public int shift(int by) {
-        return moveTimes(Integer.MIN_VALUE, Integer.MAX_VALUE, by);
+        return moveTimes(0, LAST_TIME, by);
     }
 
     public int shiftSpan(int from, int to, int by) {
@@ -114,7 +115,7 @@ public final class TimeTable {
     }
 
     public int tick() {
-        if (now == Integer.MAX_VALUE) {
+        if (now == LAST_TIME) {
             return NONE;
         }
         now++;
@@ -221,7 +222,7 @@ public final class TimeTable {
 
     private boolean canMove(int slot, int by) {
         long time = (long) times[slot] + by;
-        return time > now && time <= Integer.MAX_VALUE;
+        return time > now && time <= LAST_TIME;
     }
 
     private boolean isInSpan(int slot, int from, int to) {

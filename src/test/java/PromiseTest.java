@@ -9,6 +9,7 @@ public final class PromiseTest {
         newObject();
         newObjectSizes();
         put();
+        putAllLife();
         insert();
         insertRefusals();
         insertOrder();
@@ -93,6 +94,21 @@ public final class PromiseTest {
         due("byteAt(1, 254)", x.byteAt(1, 254), 255);
         due("byteAt(1, 255)", x.byteAt(1, 255), 0);
         due("put after insert", x.put(9), 1);
+    }
+
+    private static void putAllLife() {
+        CHECKS.in("promise 2, as many as 512 calls can put");
+        TimeTable x = new TimeTable(2);
+        for (int j = 1; j <= 256; j++) {
+            due("put, byte " + j, x.put(j), j);
+        }
+        due("insert, call 257", x.insert(1, 1), 0);
+        for (int j = 1; j <= 252; j++) {
+            due("put, byte " + j + " of the second", x.put(j), j);
+        }
+        due("insert, call 510", x.insert(2, 1), 0);
+        due("byteAt(0, 255)", x.byteAt(0, 255), 0);
+        due("byteAt(1, 251), call 512", x.byteAt(1, 251), 252);
     }
 
     private static void insert() {
@@ -227,6 +243,12 @@ public final class PromiseTest {
         due("shift(0), one's time has come", x.shift(0), NONE);
         due("shift(1), one's time has come", x.shift(1), 2);
         due("after 1", table(x), "1@4[1] 2@14[2]");
+        x.tick();
+        x.tick();
+        due("shift(1), one's time was before now", x.shift(1), NONE);
+        due("all stay then", table(x), "1@4[1] 2@14[2]");
+        due("shift(2), one's time was before now", x.shift(2), 2);
+        due("after 2", table(x), "1@6[1] 2@16[2]");
     }
 
     private static void shiftSpan() {
