@@ -1,6 +1,6 @@
 import java.util.Random;
 
-/** Past its 512th call an object's answers are free, but no call ever throws, and now still stops at its end. */
+/** Past its 512th call an object's answers are free, but no call ever throws. */
 public final class LateCallsTest {
     private static final int[] EDGES = {
         Integer.MIN_VALUE, -257, -1, 0, 1, 2, 3, 255, 256, 511, 512, 1023, 1024, Integer.MAX_VALUE};
@@ -15,27 +15,7 @@ public final class LateCallsTest {
                 callAny(x);
             }
         }
-        ticksStop(checks);
         checks.end();
-    }
-
-    /** No other way leads to the last tick than all the ticks before it. */
-    private static void ticksStop(Checks checks) {
-        TimeTable x = new TimeTable(1);
-        x.put(1);
-        x.insert(1, Integer.MAX_VALUE);
-        for (int now = 1; now < Integer.MAX_VALUE; now++) {
-            x.tick();
-        }
-        checks.due("leave() a tick too early", x.leave(), TimeTable.NONE);
-        checks.due("the last tick()", x.tick(), Integer.MAX_VALUE);
-        checks.due("tick() after it", x.tick(), TimeTable.NONE);
-        checks.due("count(0)", x.count(0), Integer.MAX_VALUE);
-        checks.due("shift(0)", x.shift(0), TimeTable.NONE);
-        checks.due("shift(1)", x.shift(1), TimeTable.NONE);
-        checks.due("leave()", x.leave(), 1);
-        x.put(1);
-        checks.due("insert(1, MAX)", x.insert(1, Integer.MAX_VALUE), 2);
     }
 
     private static void callAny(TimeTable x) {

@@ -1,10 +1,5 @@
 /** Each promise of the document by its number: ordinary inputs, the edges it names, wrong inputs. */
-public final class PromiseTest {
-    private static final int NONE = TimeTable.NONE;
-    private static final int MIN = Integer.MIN_VALUE;
-    private static final int MAX = Integer.MAX_VALUE;
-    private static final Checks CHECKS = new Checks();
-
+public final class PromiseTest extends TableChecks {
     public static void main(String[] args) {
         newObject();
         newObjectSizes();
@@ -566,37 +561,5 @@ public final class PromiseTest {
             due("order", table(x), way < 3 ? "1@10[1] 2@12[2] 5@12[5 6]" : "1@11[1] 5@12[5 6] 2@13[2]");
             x.reset();
         }
-    }
-
-    private static int add(TimeTable x, int number, int time, int... bytes) {
-        for (int b : bytes) {
-            x.put(b);
-        }
-        return x.insert(number, time);
-    }
-
-    /** All that wait, in order: number@time[bytes]. */
-    private static String table(TimeTable x) {
-        StringBuilder all = new StringBuilder();
-        for (int k = 0; k < x.count(1); k++) {
-            all.append(k == 0 ? "" : " ").append(x.about(k, 0)).append('@').append(x.about(k, 1)).append('[');
-            for (int j = 0; j < x.about(k, 2); j++) {
-                all.append(j == 0 ? "" : " ").append(x.byteAt(k, j));
-            }
-            all.append(']');
-        }
-        return all.toString();
-    }
-
-    private static void due(String call, int got, int want) {
-        CHECKS.due(call, got, want);
-    }
-
-    private static void due(String call, boolean got, boolean want) {
-        CHECKS.due(call, got, want);
-    }
-
-    private static void due(String call, String got, String want) {
-        CHECKS.due(call, got, want);
     }
 }
