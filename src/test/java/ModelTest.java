@@ -1,146 +1,12 @@
-import java.util.ArrayList;
-import java.util.List;
 import java.util.Random;
 
-/** Runs of 512 calls against the plainest model of the document; the seeds are fixed. */
+/** Runs of 512 calls against the plain model of the document; the seeds are fixed. */
 public final class ModelTest {
-    private static final int NONE = TimeTable.NONE;
     private static final int CALLS = 512;
     private static final int RUNS = 6000;
     private static final int[] EDGES = {
         Integer.MIN_VALUE, Integer.MIN_VALUE + 1, -256, -1, 0, 1, 255, 256, 257, 1024, 1025,
         Integer.MAX_VALUE - 1, Integer.MAX_VALUE};
-
-    private static final class Entry {
-        int number;
-        long time;
-        int came;
-        List<Integer> bytes;
-    }
-
-    /** Holds the entries as they came and looks for the order each time anew. */
-    private static final class Model {
-        final int most;
-        final List<Entry> entries = new ArrayList<>();
-        List<Integer> text = new ArrayList<>();
-        List<Integer> gone = new ArrayList<>();
-        int now;
-        int came;
-        boolean on;
-
-        Model(int most) {
-            this.most = most < 1 ? 1 : most > 1024 ? 1024 : most;
-        }
-
-        int put(int b) {
-            if (text.size() == 256) {
-                return NONE;
-            }
-            text.add(Math.floorMod(b, 256));
-            return text.size();
-        }
-
-        int insert(int number, int time) {
-            List<Integer> given = text;
-            text = new ArrayList<>();
-            if (given.isEmpty()) {
-                return 1;
-            }
-            if (time <= now) {
-                return 2;
-            }
-            if (entries.size() == most) {
-                return 3;
-            }
-            Entry entry = new Entry();
-            entry.number = number;
-            entry.time = time;
-            entry.came = came++;
-            entry.bytes = given;
-            entries.add(entry);
-            return 0;
-        }
-
-        int remove(int number) {
-            int before = entries.size();
-            entries.removeIf(entry -> entry.number == number);
-            return before - entries.size();
-        }
-
-        int removeSpan(int from, int to) {
-            int before = entries.size();
-            entries.removeIf(entry -> from <= entry.time && entry.time <= to);
-            return before - entries.size();
-        }
-
-        int shift(List<Entry> chosen, int by) {
-            for (Entry entry : chosen) {
-                if (entry.time + by <= now || entry.time + by > Integer.MAX_VALUE) {
-                    return NONE;
-                }
-            }
-            for (Entry entry : chosen) {
-                entry.time += by;
-            }
-            return chosen.size();
-        }
-
-        List<Entry> span(int from, int to) {
-            List<Entry> chosen = new ArrayList<>();
-            for (Entry entry : entries) {
-                if (from <= entry.time && entry.time <= to) {
-                    chosen.add(entry);
-                }
-            }
-            return chosen;
-        }
-
-        Entry inOrder(int k) {
-            for (Entry entry : entries) {
-                int before = 0;
-                for (Entry other : entries) {
-                    if (other.time < entry.time || other.time == entry.time && other.came < entry.came) {
-                        before++;
-                    }
-                }
-                if (before == k) {
-                    return entry;
-                }
-            }
-            return null;
-        }
-
-        int leave() {
-            Entry first = inOrder(0);
-            if (first == null || first.time > now) {
-                return NONE;
-            }
-            entries.remove(first);
-            gone = first.bytes;
-            return gone.size();
-        }
-
-        int count(int what) {
-            return what == 0 ? now : what == 1 ? entries.size() : what == 2 ? came : what == 3 ? gone.size() : NONE;
-        }
-
-        int about(int k, int what) {
-            Entry entry = inOrder(k);
-            if (entry == null) {
-                return NONE;
-            }
-            return what == 0 ? entry.number : what == 1 ? (int) entry.time : what == 2 ? entry.bytes.size() : NONE;
-        }
-
-        int byteAt(int k, int j) {
-            Entry entry = inOrder(k);
-            return entry == null ? NONE : byteOf(entry.bytes, j);
-        }
-
-        static int byteOf(List<Integer> bytes, int j) {
-            return j >= 0 && j < bytes.size() ? bytes.get(j) : NONE;
-        }
-    }
 
     private final Checks checks;
     private final Random random;
@@ -208,7 +74,7 @@ public final class ModelTest {
             case 7: enableOne(); break;
             case 8: due("isOn()", table.isOn() ? 1 : 0, model.on ? 1 : 0); break;
             case 9: resetOne(); break;
-            case 10: due("tick()", table.tick(), ++model.now); break;
+            case 10: due("tick()", table.tick(), model.tick()); break;
             case 11: due("leave()", table.leave(), model.leave()); break;
             case 12: leftOne(); break;
             case 13: countOne(); break;
@@ -243,7 +109,7 @@ public final class ModelTest {
 
     private void shiftAll() {
         int by = any(spread) - random.nextInt(spread);
-        due("shift(" + by + ")", table.shift(by), model.shift(model.entries, by));
+        due("shift(" + by + ")", table.shift(by), model.shift(by));
     }
 
     private void shiftSome() {
@@ -251,7 +117,7 @@ public final class ModelTest {
         int to = random.nextBoolean() ? time() : from;
         int by = any(spread) - random.nextInt(spread);
         due("shiftSpan(" + from + ", " + to + ", " + by + ")",
-            table.shiftSpan(from, to, by), model.shift(model.span(from, to), by));
+            table.shiftSpan(from, to, by), model.shiftSpan(from, to, by));
     }
 
     private void enableOne() {
@@ -263,14 +129,13 @@ public final class ModelTest {
 
     private void resetOne() {
         table.reset();
-        model.entries.clear();
-        model.on = false;
+        model.reset();
         calls++;
     }
 
     private void leftOne() {
         int j = any(model.gone.size() + 2);
-        due("left(" + j + ")", table.left(j), Model.byteOf(model.gone, j));
+        due("left(" + j + ")", table.left(j), model.left(j));
     }
 
     private void countOne() {
